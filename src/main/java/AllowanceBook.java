@@ -576,7 +576,8 @@ public final class AllowanceBook {
             return Math.max(0, due - most);
         }
 
-        void beginYear() {
+        /** Ends a year: what was emitted in it is due from now on. */
+        void closeYear() {
             int tenth = (reported + 9) / 10;
             base = verified + reported + tenth;
             due += base;
@@ -674,7 +675,7 @@ public final class AllowanceBook {
 
         void beginYear() {
             for (Firm each : firms) {
-                each.beginYear();
+                each.closeYear();
             }
             for (int vintage = 0; vintage < VINTAGES; vintage++) {
                 if (year() > vintage + settings[BANK]) {

@@ -8,9 +8,11 @@ final class TellingTest {
     public static void main(String[] args) {
         AllowanceBook book = example();
         tellsFirm(book);
+        tellsOldestAndNewest();
         tellsDueAtBest();
         tellsHolds(book);
         tellsOffsets(book);
+        roundsDownWhatMayBeUsed();
         tellsVintage(book);
         tellsMonthsUntilLost();
         tellsGrade(book);
@@ -69,6 +71,28 @@ final class TellingTest {
         }
     }
 
+    private static void tellsOldestAndNewest() {
+        AllowanceBook book = Check.withFirms(2);
+        book.issue(0, 1);
+        int[] dueOfFirst = {1, 1, 0, 0};
+        for (int what = 0; what <= 3; what++) {
+            check.is("firm(0, " + what + ") of one tonne", book.firm(0, what), dueOfFirst[what]);
+        }
+        for (int i = 0; i < 9; i++) {
+            book.pass(24);
+        }
+        book.issue(0, 1);
+        book.pass(12);
+        book.issue(0, 1);
+        book.issue(1, 1);
+        int[] due = {2, 2, 18, 19};
+        int[] dueOfOther = {1, 1, 19, 19};
+        for (int what = 0; what <= 3; what++) {
+            check.is("firm(0, " + what + ") late", book.firm(0, what), due[what]);
+            check.is("firm(1, " + what + ") late", book.firm(1, what), dueOfOther[what]);
+        }
+    }
+
     private static void tellsDueAtBest() {
         AllowanceBook book = Check.withFirms(1);
         book.report(0, 100);
@@ -122,6 +146,20 @@ final class TellingTest {
         for (int what : bad) {
             check.is("offsets(0, 0, " + what + ")", book.offsets(0, 0, what), -2);
         }
+    }
+
+    private static void roundsDownWhatMayBeUsed() {
+        AllowanceBook book = Check.withFirms(1);
+        book.report(0, 119);
+        book.verify(0);
+        book.pass(12);
+        int[] limits = {0, 1, 5, 50, 84, 85, 99, 100};
+        int[] due = {0, 1, 5, 59, 99, 101, 117, 119};
+        for (int i = 0; i < limits.length; i++) {
+            book.set(2, limits[i]);
+            check.is("offsets(0, 2, 1) of " + limits[i] + " percent", book.offsets(0, 2, 1), due[i]);
+        }
+        check.is("offsets(0, 0, 1) of another limit", book.offsets(0, 0, 1), 23);
     }
 
     private static void tellsVintage(AllowanceBook book) {

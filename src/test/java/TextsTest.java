@@ -9,6 +9,7 @@ final class TextsTest {
         makesAllOrNone();
         tellsFaults();
         tellsFaultsOfLongTexts();
+        forgetsWhatWasCleared();
         tellsErrorsOfTransfers();
         check.end();
     }
@@ -165,6 +166,19 @@ final class TextsTest {
         Check.write(book, "0>1:0*10;0>1:0*10;0>1:0*10;0>1:0*10;0>1:0*10;0>1:0*10;0>1:0*1");
         check.is("count(14)", book.count(14), 60);
         check.is("60 characters", book.readTransfers(), -160);
+    }
+
+    /** A shorter text in place of a longer one ends where it ends. */
+    private static void forgetsWhatWasCleared() {
+        AllowanceBook book = withHoldings();
+        String whole = "0>1:0*1234;0>1:0*5";
+        for (int length = 0; length < whole.length(); length++) {
+            Check.write(book, whole);
+            Check.write(book, whole.substring(0, length));
+            boolean isWhole = length >= 7 && length <= 10;
+            check.is("readTransfers() of " + length + " characters", book.readTransfers(), isWhole ? 1 : -100 - length);
+        }
+        check.is("holds(1, 0)", book.holds(1, 0), 1 + 12 + 123 + 1234);
     }
 
     private static void tellsErrorsOfTransfers() {
