@@ -91,20 +91,26 @@ final class HistoryTest {
         book.pass(5);
     }
 
-    private static void bringsAllBack() {
+    private static AllowanceBook changed() {
         AllowanceBook book = Check.withFirms(1);
         book.keep();
-        String atFirst = told(book);
         change(book);
-        String changed = told(book);
+        return book;
+    }
+
+    private static void bringsAllBack() {
+        String atFirst = told(Check.withFirms(1));
+        String changed = told(changed());
         check.is("change changes", changed.equals(atFirst) ? 1 : 0, 0);
+        AllowanceBook book = changed();
         book.restore();
         check.is("restore brings all back", told(book).equals(atFirst) ? 0 : 1, 0);
         book.undo();
         check.is("undo brings all back", told(book).equals(changed) ? 0 : 1, 0);
-        book.keep();
-        book.restore();
-        check.is("keep and restore change nothing", told(book).equals(changed) ? 0 : 1, 0);
+        AllowanceBook other = changed();
+        other.keep();
+        other.restore();
+        check.is("keep and restore change nothing", told(other).equals(changed) ? 0 : 1, 0);
     }
 
     private static void keepsAndRestores() {

@@ -309,15 +309,14 @@ final class TellingTest {
     }
 
     private static void tellsDeadline() {
-        AllowanceBook book = new AllowanceBook();
         for (int month = 0; month <= 239; month++) {
+            AllowanceBook book = Check.inMonth(0, month);
             int deadline = 16;
             while (deadline <= month) {
                 deadline += 12;
             }
             check.is("count(12) in the month " + month, book.count(12), deadline - month);
             check.is("count(1) in the month " + month, book.count(1), month / 12);
-            book.pass(1);
         }
     }
 
