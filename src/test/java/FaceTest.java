@@ -5,7 +5,9 @@ import java.lang.reflect.Method;
 import java.lang.reflect.Modifier;
 import java.nio.file.Files;
 import java.nio.file.Path;
+import java.util.ArrayList;
 import java.util.Arrays;
+import java.util.List;
 import java.util.Set;
 import java.util.TreeSet;
 import java.util.regex.Matcher;
@@ -23,11 +25,15 @@ final class FaceTest {
     private static final String[] FORBIDDEN_WORDS = {"throw", "throws", "try", "catch", "synchronized", "assert",
         "->", "::", "@", "double", "float", "System.out", "Object", "protected", "Exact"};
 
+    private static final Pattern HEAD = Pattern.compile("Ahead of the calls? (.*) the interface says: (----.*)\\.\n");
+
     public static void main(String[] args) throws IOException {
         constants();
         methods();
         innerMethods();
+        sizes();
         source();
+        heads();
         check.end();
     }
 
@@ -84,6 +90,52 @@ final class FaceTest {
             boolean isHidden = Modifier.isPrivate(method.getModifiers()) && names.contains(method.getName());
             check.is(method + " bears a public name", isHidden ? 1 : 0, 0);
         }
+    }
+
+    /** What rule 11 bounds, and rule 5 on static fields. */
+    private static void sizes() {
+        List<Class<?>> all = new ArrayList<>(Arrays.asList(AllowanceBook.class.getDeclaredClasses()));
+        all.add(AllowanceBook.class);
+        check.is("whether the file has at most twelve classes", all.size() <= 12 ? 1 : 0, 1);
+        for (Class<?> each : all) {
+            int fields = 0;
+            for (Field field : each.getDeclaredFields()) {
+                boolean isStatic = Modifier.isStatic(field.getModifiers());
+                check.is(field + " is static and not final", isStatic && !isFinal(field) ? 1 : 0, 0);
+                fields += isStatic ? 0 : 1;
+            }
+            check.is(each + " has at most twenty fields", fields <= 20 ? 1 : 0, 1);
+            for (Method method : each.getDeclaredMethods()) {
+                check.is(method + " has at most seven parameters", method.getParameterCount() <= 7 ? 1 : 0, 1);
+            }
+        }
+    }
+
+    private static boolean isFinal(Field field) {
+        return Modifier.isFinal(field.getModifiers());
+    }
+
+    /** What the interface says ahead of the calls. */
+    private static void heads() throws IOException {
+        String source = Files.readString(Path.of("src/main/java/AllowanceBook.java"));
+        Matcher matcher = HEAD.matcher(Files.readString(Path.of("../shared/DOC.md")));
+        int at = source.indexOf("public AllowanceBook()");
+        int heads = 0;
+        while (matcher.find()) {
+            heads++;
+            at = after(source, "    // " + matcher.group(2) + "\n", at);
+            for (String call : matcher.group(1).replaceAll("[`,]", "").split(" ")) {
+                at = after(source, "    public int " + call + "(", at);
+            }
+        }
+        check.is("heads", heads, 6);
+    }
+
+    /** Where the words stand behind a place; it is an error if they don't. */
+    private static int after(String source, String words, int place) {
+        int at = source.indexOf(words, place);
+        check.is("whether this stands in its place: " + words.strip(), at >= 0 ? 1 : 0, 1);
+        return Math.max(at, place);
     }
 
     private static void source() throws IOException {
